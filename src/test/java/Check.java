@@ -1,0 +1,42 @@
+/** What all tests of the project use: comparing an answer with the one that is due, and ending. */
+final class Check {
+    private static final int SHOWN = 20;
+
+    private static int wrong = 0;
+
+    interface Call {
+        Object answer();
+    }
+
+    private Check() { }
+
+    /** What a call answered, or the name of what it threw. */
+    static String outcome(Call call) {
+        try {
+            return String.valueOf(call.answer());
+        } catch (RuntimeException e) {
+            return e.getClass().getSimpleName();
+        }
+    }
+
+    static void due(String what, Object got, Object want) {
+        if (!got.equals(want)) {
+            wrong++;
+            if (wrong <= SHOWN) {
+                System.out.println(what + ": " + got + ", due is " + want);
+            }
+        }
+    }
+
+    static void dueOutcome(String what, Call call, Object want) {
+        due(what, outcome(call), String.valueOf(want));
+    }
+
+    static boolean allRight() {
+        return wrong == 0;
+    }
+
+    static void end() {
+        System.exit(allRight() ? 0 : 1);
+    }
+}
