@@ -215,7 +215,7 @@ public final class ModelTest {
 
         KeySource(Random random, int seed) {
             this.random = random;
-            this.kind = random.nextInt(4);
+            this.kind = random.nextInt(5);
             this.range = 4 << random.nextInt(8);
             this.seed = seed;
         }
@@ -228,6 +228,10 @@ public final class ModelTest {
                     return random.nextInt();
                 case 2:
                     return crowding(1, 15);
+                case 3:
+                    // Homes depend on the lower bits of a key alone.
+                    return random.nextInt(2) == 0 ? random.nextInt(range)
+                            : random.nextInt(20) << 13 + random.nextInt(4);
                 default:
                     return crowding(2 + random.nextInt(2), 31);
             }
