@@ -48,11 +48,11 @@ public final class HopArena {
         }
 
         int slotOf(int place) {
-            return base + around(place);
+            return base + (place & (capacity - 1));
         }
 
         int homeOf(int key) {
-            return around((key ^ seed) * -1640531535 >>> 9);
+            return ((key ^ seed) * -1640531535 >>> 9) & (capacity - 1);
         }
 
         int end() {

@@ -25,6 +25,7 @@ public final class GrowingTest {
         refusedAfterMoves();
         refusedAt128();
         sumOf256IsEnough();
+        partsUpToTheLastSlot();
         Check.end();
     }
 
@@ -272,14 +273,10 @@ public final class GrowingTest {
         Arenas.growTo(x, 0, 64);
         Arenas.growTo(x, 1, 64);
         Check.due("sum: bases", Arenas.bases(x), "72 184 16");
-        String[] before = {Arenas.contents(x, 0), Arenas.contents(x, 1)};
-        Arenas.growTo(x, 2, 64);
-        Check.due("sum: pushed in the order of bases", Arenas.bases(x), "8 72 184");
-        Check.due("sum: keys keep their places", Arenas.contents(x, 0), before[0]);
-        Check.due("sum: keys keep their places", Arenas.contents(x, 1), before[1]);
-        Check.due("sum: pushes", x.count(2), 1);
+        growPushing("sum", x, 64, "8 72 184");
+        String other = Arenas.contents(x, 1);
         putUntilRefused(x, 0);
-        Check.due("sum: others", Arenas.contents(x, 1), before[1]);
+        Check.due("sum: other map", Arenas.contents(x, 1), other);
     }
 
     private static void refusedAfterMoves() {
@@ -316,20 +313,37 @@ public final class GrowingTest {
         putUntilRefused(x, 1);
     }
 
+    /** Map 2 grows, which pushes the parts together for the first time; the others keep their keys and places. */
+    private static void growPushing(String what, HopArena x, int capacity, String bases) {
+        Check.due(what + ": not pushed yet", x.count(2), 0);
+        String[] before = {Arenas.contents(x, 0), Arenas.contents(x, 1)};
+        Arenas.growTo(x, 2, capacity);
+        Check.due(what + ": bases", Arenas.bases(x), bases);
+        Check.due(what + ": pushes", x.count(2), 1);
+        for (int map = 0; map < 2; map++) {
+            Check.due(what + ": keys keep their places", Arenas.contents(x, map), before[map]);
+        }
+    }
+
     private static void sumOf256IsEnough() {
         HopArena x = new HopArena();
         Arenas.growTo(x, 0, 32);
         Arenas.growTo(x, 1, 32);
         Arenas.growTo(x, 2, 64);
         Check.due("256: bases at first", Arenas.bases(x), "40 88 168");
-        Check.due("256: not pushed yet", x.count(2), 0);
-        String[] before = {Arenas.contents(x, 0), Arenas.contents(x, 1)};
-        Arenas.growTo(x, 2, 128);
-        Check.due("256: bases", Arenas.bases(x), "0 32 128");
-        Check.due("256: pushes", x.count(2), 1);
+        growPushing("256", x, 128, "0 32 128");
         Check.due("256: new parts", x.count(1), 8);
-        for (int map = 0; map < 2; map++) {
-            Check.due("256: keys keep their places", Arenas.contents(x, map), before[map]);
-        }
+    }
+
+    private static void partsUpToTheLastSlot() {
+        HopArena x = new HopArena();
+        Arenas.growTo(x, 1, 64);
+        Arenas.growTo(x, 2, 64);
+        x.clear(1);
+        x.clear(2);
+        Arenas.growTo(x, 0, 32);
+        Arenas.growTo(x, 1, 16);
+        Check.due("last slot: bases at first", Arenas.bases(x), "208 240 184");
+        growPushing("last slot", x, 16, "8 40 56");
     }
 }
