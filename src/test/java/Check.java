@@ -2,6 +2,7 @@
 final class Check {
     private static final int SHOWN = 20;
 
+    private static String sentence = "";
     private static int wrong = 0;
 
     interface Call {
@@ -9,6 +10,11 @@ final class Check {
     }
 
     private Check() { }
+
+    /** From now on it is this sentence of the document that is tested; a wrong answer is told with it. */
+    static void sentence(String words) {
+        sentence = "\"" + words + "\" ";
+    }
 
     /** What a call answered, or the name of what it threw. */
     static String outcome(Call call) {
@@ -23,7 +29,7 @@ final class Check {
         if (!got.equals(want)) {
             wrong++;
             if (wrong <= SHOWN) {
-                System.out.println(what + ": " + got + ", due is " + want);
+                System.out.println(sentence + what + ": " + got + ", due is " + want);
             }
         }
     }

@@ -19,6 +19,20 @@ final class KeyFinder {
         return later;
     }
 
+    /** The seed of a map that came to a capacity without being cleared. */
+    static int seed(int map, int capacity) {
+        return later(map + 1, Integer.numberOfTrailingZeros(capacity / 8));
+    }
+
+    /** Homes depend on the lower 16 bits of a key alone, so that no growing ever parts these keys. */
+    static int[] inseparable(int n) {
+        int[] keys = new int[n];
+        for (int i = 0; i < n; i++) {
+            keys[i] = 1000 + (i << 16);
+        }
+        return keys;
+    }
+
     KeyFinder at(int seed, int capacity, int home) {
         conditions.add(new int[] {seed, capacity, home});
         return this;

@@ -254,7 +254,7 @@ public final class ModelTest {
 
     private static void run(int number, Model model) {
         Random random = new Random(number);
-        HopArena x = new HopArena();
+        Arena x = new Arena();
         KeySource[] sources = {new KeySource(random, 1), new KeySource(random, 2), new KeySource(random, 3)};
         int favourite = random.nextInt(3);
         int removals = random.nextInt(30);
@@ -302,7 +302,7 @@ public final class ModelTest {
         return otherwise;
     }
 
-    private static void compare(int run, String after, HopArena x, Model model, int touched, int key) {
+    private static void compare(int run, String after, Arena x, Model model, int touched, int key) {
         String where = "run " + run + " after " + after + " ";
         for (int what = 0; what < 3; what++) {
             Check.due(where + "count " + what, x.count(what), model.counts[what]);
@@ -315,7 +315,7 @@ public final class ModelTest {
         Check.due(where + "home", x.home(touched, key), table.home(key));
     }
 
-    private static void compareMap(String where, HopArena x, int map, Table table) {
+    private static void compareMap(String where, Arena x, int map, Table table) {
         int capacity = table.places.length;
         Check.due(where + "capacity", x.about(map, 0), capacity);
         Check.due(where + "base", x.about(map, 1), table.base);

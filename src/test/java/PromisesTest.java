@@ -1,280 +1,513 @@
-/** Each promise with ordinary inputs, its edges, and wrong inputs. What growing does is in GrowingTest. */
+import java.util.Arrays;
+
+/** Each promise by its sentences: ordinary inputs, empty and full maps, edges, and wrong inputs. */
 public final class PromisesTest {
-    private static final int[] NO_MAPS = {-1, 3, 4, Integer.MIN_VALUE, Integer.MAX_VALUE};
-    private static final String NO_MAP = "IndexOutOfBoundsException";
     private static final String NO_ARGUMENT = "IllegalArgumentException";
     private static final String NO_ELEMENT = "NoSuchElementException";
-    private static final int SEED_AT_16 = KeyFinder.later(1, 1);
+    private static final int[] ODD_NUMBERS = {0, -1, 1, Integer.MAX_VALUE, Integer.MIN_VALUE};
+    private static final int[] CAPACITIES = {8, 16, 32, 64, 128};
 
     public static void main(String[] args) {
         newObject();
-        put();
+        objectsAreApart();
+        putTellsWhetherItWasThere();
+        putKnownKeyStaysWhereItIs();
+        putNewKeyThatMakesTheMapGrow();
         get();
+        getFromEmptyAndFullMaps();
         remove();
+        removeEachOfAFullMap();
+        removeKeepsTheCapacity();
         has();
+        hasInFullMaps();
+        sizeOfEmptyAndFullMaps();
         size();
-        clear();
+        for (int capacity : CAPACITIES) {
+            clearFrom(capacity);
+            clearFull(capacity);
+            clearKeepsFirstEightSlots(capacity);
+        }
+        clearLeavesNothing();
         about();
         home();
         distance();
-        bits();
+        bitsOfEmptyAndFullMaps();
         next();
+        nextInEmptyAndFullMaps();
+        nextDoesNotGoAround();
         key();
+        keyAtEachPlace();
         count();
-        noSuchMap();
-        callsThatThrowChangeNothing();
         Check.end();
     }
 
     private static void newObject() {
-        HopArena x = new HopArena();
-        Check.due("1: all", Arenas.all(x),
+        Check.sentence("HopArena(): As said at first.");
+        Arena x = new Arena();
+        Check.due("all", Arenas.all(x),
                 "capacity 8 seed 1; capacity 8 seed 2; capacity 8 seed 3; bases 0 8 16; counts 0 0 0");
         for (int map = 0; map < 3; map++) {
-            Check.due("1: size", x.size(map), 0);
-            Check.due("1: next", x.next(map, 0), HopArena.NONE);
+            Check.due("size", x.size(map), 0);
+            Check.due("next", x.next(map, 0), HopArena.NONE);
         }
-        x.put(0, 1, 1);
-        Check.due("1: another object", new HopArena().size(0), 0);
     }
 
-    private static void put() {
-        HopArena x = new HopArena();
-        int[] keys = {0, -1, 1, Integer.MAX_VALUE, Integer.MIN_VALUE};
+    private static void objectsAreApart() {
+        HopArena one = new HopArena();
+        HopArena other = new HopArena();
+        for (int key = 0; key < 20; key++) {
+            one.put(0, key, key);
+        }
+        Check.due("another object", other.size(0) + " " + other.about(0, 0) + " " + other.count(1), "0 8 0");
+        Check.due("a later object", new HopArena().has(0, 3), false);
+    }
+
+    private static void putTellsWhetherItWasThere() {
+        Check.sentence("A key has a value from now on: whether it had one before.");
+        Arena x = new Arena();
         int[] values = {-1, 0, Integer.MIN_VALUE, Integer.MAX_VALUE, 7};
-        for (int i = 0; i < keys.length; i++) {
-            Check.due("2: new key", x.put(1, keys[i], values[i]), false);
+        for (int i = 0; i < ODD_NUMBERS.length; i++) {
+            Check.due("new key", x.put(1, ODD_NUMBERS[i], values[i]), false);
         }
-        for (int i = 0; i < keys.length; i++) {
-            Check.due("2: value", x.get(1, keys[i]), values[i]);
-            Check.due("2: known key", x.put(1, keys[i], values[i] + 1), true);
-            Check.due("2: new value", x.get(1, keys[i]), values[i] + 1);
+        for (int i = 0; i < ODD_NUMBERS.length; i++) {
+            int key = ODD_NUMBERS[i];
+            Check.due("value", x.get(1, key), values[i]);
+            Check.due("known key, same value", x.put(1, key, values[i]), true);
+            Check.due("same value", x.get(1, key), values[i]);
+            Check.due("known key", x.put(1, key, values[i] + 1), true);
+            Check.due("new value", x.get(1, key), values[i] + 1);
         }
-        Check.due("2: size", x.size(1), keys.length);
-        Check.due("2: the others", x.size(0) + x.size(2), 0);
+        Check.due("size", x.size(1), ODD_NUMBERS.length);
+        Check.due("the others", x.size(0) + x.size(2), 0);
+        Check.due("new in another map", x.put(2, 0, 5), false);
         x.remove(1, 0);
-        Check.due("2: removed key is new again", x.put(1, 0, 5), false);
+        Check.due("removed key is new again", x.put(1, 0, 5), false);
+        x.clear(1);
+        Check.due("cleared key is new again", x.put(1, -1, 5), false);
+    }
+
+    private static void putKnownKeyStaysWhereItIs() {
+        Arena x = new Arena();
+        int[] same = new Keys(1, 8).at(6, 8);
+        Arenas.putAll(x, 0, same);
+        for (int i = 0; i < 7; i++) {
+            x.remove(0, same[i]);
+        }
+        Check.due("known key 7 behind its home, which is free", x.put(0, same[7], 9), true);
+        Check.due("its distance", x.distance(0, same[7]), 7);
+        Check.due("its value", x.get(0, same[7]), 9);
+        Check.due("size", x.size(0), 1);
+    }
+
+    private static void putNewKeyThatMakesTheMapGrow() {
+        Check.sentence("If it is new, it is inserted; if that fails, the map grows, and the new key is inserted");
+        Arena x = new Arena();
+        Keys keys = new Keys(2, 8);
+        for (int home = 0; home < 8; home++) {
+            Arenas.putAll(x, 1, keys.at(home));
+        }
+        Check.due("8 keys", x.about(1, 0), 8);
+        int added = keys.at(4);
+        Check.due("the ninth one is new", x.put(1, added, -5), false);
+        Check.due("9 keys", x.size(1) + " of " + x.about(1, 0), "9 of 16");
+        Check.due("value of the ninth", x.get(1, added), -5);
+        Check.due("it is known then", x.put(1, added, -6), true);
+        Check.due("other maps", Arenas.contents(x, 0) + "; " + Arenas.contents(x, 2),
+                "capacity 8 seed 1; capacity 8 seed 3");
     }
 
     private static void get() {
-        HopArena x = new HopArena();
+        Check.sentence("The value of a key. NoSuchElementException: it is not there.");
+        Arena x = new Arena();
         x.put(0, 5, 50);
         x.put(1, 5, 60);
-        Check.due("3: map 0", x.get(0, 5), 50);
-        Check.due("3: map 1", x.get(1, 5), 60);
-        Check.dueOutcome("3: map 2", () -> x.get(2, 5), NO_ELEMENT);
-        Check.dueOutcome("3: other key", () -> x.get(0, 6), NO_ELEMENT);
-        Check.dueOutcome("3: key of a free slot", () -> x.get(0, 0), NO_ELEMENT);
+        Check.due("map 0", x.get(0, 5), 50);
+        Check.due("map 1", x.get(1, 5), 60);
+        Check.dueOutcome("map 2", () -> x.get(2, 5), NO_ELEMENT);
+        Check.dueOutcome("just below", () -> x.get(0, 4), NO_ELEMENT);
+        Check.dueOutcome("just above", () -> x.get(0, 6), NO_ELEMENT);
+        for (int value : ODD_NUMBERS) {
+            x.put(0, 5, value);
+            Check.due("value", x.get(0, 5), value);
+        }
+        x.remove(0, 5);
+        Check.dueOutcome("removed", () -> x.get(0, 5), NO_ELEMENT);
+        x.clear(1);
+        Check.dueOutcome("cleared", () -> x.get(1, 5), NO_ELEMENT);
+    }
+
+    private static void getFromEmptyAndFullMaps() {
+        Arena x = new Arena();
+        for (int key : ODD_NUMBERS) {
+            Check.dueOutcome("empty map", () -> x.get(0, key), NO_ELEMENT);
+        }
+        int[] same = new Keys(1, 8).at(3, 9);
+        Arenas.putAll(x, 0, Arrays.copyOf(same, 8));
+        for (int i = 0; i < 8; i++) {
+            Check.due("full map, distance " + i, x.get(0, same[i]), Arenas.valueOf(same[i]));
+        }
+        Check.dueOutcome("not in a full map", () -> x.get(0, same[8]), NO_ELEMENT);
     }
 
     private static void remove() {
-        HopArena x = new HopArena();
-        int[] same = new KeyFinder().at(1, 8, 6).find(4);
+        Check.sentence("A key is not there any more: its value. NoSuchElementException: it is not there.");
+        Arena x = new Arena();
+        int[] same = new Keys(1, 8).at(6, 4);
+        Check.dueOutcome("from an empty map", () -> x.remove(0, same[0]), NO_ELEMENT);
         Arenas.putAll(x, 0, same[0], same[1], same[2]);
         x.put(1, same[0], 9);
-        Check.due("4: value", x.remove(0, same[0]), Arenas.valueOf(same[0]));
-        Check.dueOutcome("4: a second time", () -> x.remove(0, same[0]), NO_ELEMENT);
-        Check.dueOutcome("4: not there", () -> x.remove(0, 5), NO_ELEMENT);
-        Check.dueOutcome("4: no value any more", () -> x.get(0, same[0]), NO_ELEMENT);
-        Check.dueOutcome("4: place is free", () -> x.key(0, 6), NO_ELEMENT);
-        Check.due("4: the other map's", x.get(1, same[0]), 9);
-        Check.due("4: size", x.size(0), 2);
-        Check.due("4: others stay", x.distance(0, same[1]) * 10 + x.distance(0, same[2]), 12);
-        Check.due("4: bits", x.bits(0, 6), 6);
+        Check.due("value", x.remove(0, same[0]), Arenas.valueOf(same[0]));
+        Check.dueOutcome("a second time", () -> x.remove(0, same[0]), NO_ELEMENT);
+        Check.dueOutcome("not there", () -> x.remove(0, same[3]), NO_ELEMENT);
+        Check.dueOutcome("no value any more", () -> x.get(0, same[0]), NO_ELEMENT);
+        Check.dueOutcome("place is free", () -> x.key(0, 6), NO_ELEMENT);
+        Check.due("the other map's", x.get(1, same[0]), 9);
+        Check.due("size", x.size(0), 2);
+        Check.due("others stay", x.distance(0, same[1]) + " " + x.distance(0, same[2]), "1 2");
+        Check.due("bits", x.bits(0, 6), 6);
         Arenas.putAll(x, 0, same[3]);
-        Check.due("4: place used again", x.key(0, 6), same[3]);
-        Check.due("4: the last one", x.remove(0, same[2]), Arenas.valueOf(same[2]));
+        Check.due("place used again", x.key(0, 6), same[3]);
+        for (int value : ODD_NUMBERS) {
+            x.put(2, 7, value);
+            Check.due("value", x.remove(2, 7), value);
+        }
+    }
+
+    private static void removeEachOfAFullMap() {
+        int[] same = new Keys(3, 8).at(5, 9);
+        for (int i = 0; i < 8; i++) {
+            Arena x = new Arena();
+            Arenas.putAll(x, 2, Arrays.copyOf(same, 8));
+            Check.dueOutcome("not in a full map", () -> x.remove(2, same[8]), NO_ELEMENT);
+            Check.due("one of a full map", x.remove(2, same[i]), Arenas.valueOf(same[i]));
+            Check.due("size", x.size(2), 7);
+            Check.due("bits", x.bits(2, 5), 255 - (1 << i));
+            for (int j = 0; j < 8; j++) {
+                Check.due("the others", x.has(2, same[j]), j != i);
+            }
+        }
+    }
+
+    private static void removeKeepsTheCapacity() {
+        Arena x = new Arena();
+        Arenas.growTo(x, 0, 32);
+        int held = x.size(0);
+        for (int key = 0; key < held; key++) {
+            Check.due("value", x.remove(0, key), Arenas.valueOf(key));
+        }
+        Check.due("an empty map", Arenas.contents(x, 0), "capacity 32 seed " + KeyFinder.seed(0, 32));
+        Check.due("its base", Arenas.bases(x), "40 8 16");
+        Check.dueOutcome("nothing left", () -> x.remove(0, 0), NO_ELEMENT);
     }
 
     private static void has() {
-        HopArena x = new HopArena();
-        Check.due("5: free slots hold no key 0", x.has(0, 0), false);
-        x.put(0, 0, 0);
-        Check.due("5: there", x.has(0, 0), true);
-        Check.due("5: other map", x.has(1, 0), false);
-        x.remove(0, 0);
-        Check.due("5: removed", x.has(0, 0), false);
-        int[] same = new KeyFinder().at(3, 8, 5).find(9);
+        Check.sentence("Whether a key is there.");
+        Arena x = new Arena();
+        for (int key : ODD_NUMBERS) {
+            Check.due("in an empty map", x.has(0, key), false);
+            x.put(0, key, 0);
+            Check.due("there", x.has(0, key), true);
+            Check.due("other map", x.has(1, key), false);
+            x.remove(0, key);
+            Check.due("removed", x.has(0, key), false);
+        }
+        x.put(0, 5, 5);
+        x.clear(0);
+        Check.due("cleared", x.has(0, 5), false);
+    }
+
+    private static void hasInFullMaps() {
+        Arena x = new Arena();
+        int[] same = new Keys(3, 8).at(5, 9);
         for (int i = 0; i < 8; i++) {
             x.put(2, same[i], i);
-            Check.due("5: each of a full map", x.has(2, same[i]), true);
+            Check.due("each of a full map", x.has(2, same[i]), true);
+            Check.due("the next one", x.has(2, same[i + 1]), false);
         }
-        Check.due("5: not in a full map", x.has(2, same[8]), false);
+        for (int i = 0; i < 7; i++) {
+            x.remove(2, same[i]);
+            Check.due("one behind places that are free", x.has(2, same[7]), true);
+        }
+    }
+
+    private static void sizeOfEmptyAndFullMaps() {
+        Check.sentence("How many keys there are.");
+        for (int capacity : CAPACITIES) {
+            Arena x = Arenas.empty(2, capacity);
+            Keys keys = new Keys(KeyFinder.seed(2, capacity), capacity);
+            Check.due("empty", x.size(2), 0);
+            for (int home = 0; home < capacity; home++) {
+                Arenas.putAll(x, 2, keys.at(home));
+                Check.due("one more", x.size(2), home + 1);
+            }
+            Check.due("full", x.size(2), x.about(2, 0));
+            x.remove(2, x.key(2, capacity - 1));
+            Check.due("one less", x.size(2), capacity - 1);
+            Check.due("others", x.size(0) + x.size(1), 0);
+        }
     }
 
     private static void size() {
-        HopArena x = new HopArena();
+        Arena x = new Arena();
         for (int key = 0; key < 40; key++) {
             x.put(2, key, 0);
             x.put(2, key, 1);
-            Check.due("6: one more", x.size(2), key + 1);
+            Check.due("one more, also when it grew", x.size(2), key + 1);
         }
         x.remove(2, 7);
-        Check.due("6: one less", x.size(2), 39);
-        Check.due("6: others", x.size(0) + x.size(1), 0);
+        Check.dueOutcome("again", () -> x.remove(2, 7), NO_ELEMENT);
+        Check.due("one less", x.size(2), 39);
+        x.clear(2);
+        Check.due("cleared", x.size(2), 0);
+        int[] nine = KeyFinder.inseparable(9);
+        Arenas.putAll(x, 1, Arrays.copyOf(nine, 8));
+        Check.dueOutcome("refused", () -> x.put(1, nine[8], 1), "ArithmeticException");
+        Check.due("refused: size", x.size(1), 8);
     }
 
-    private static void clear() {
-        HopArena x = new HopArena();
-        Check.due("7: nothing to clear", x.clear(0), 0);
+    private static void clearFrom(int capacity) {
+        Check.sentence("All places of a map are free, its capacity is 8 (its part is the first 8 slots of the one that "
+                + "it had); the seed stays. How many keys there were.");
+        for (int map = 0; map < 3; map++) {
+            Arena x = new Arena();
+            Arenas.growTo(x, map, capacity);
+            Arenas.putAll(x, (map + 1) % 3, 1, 2, 3);
+            String others = Arenas.contents(x, (map + 1) % 3) + Arenas.contents(x, (map + 2) % 3);
+            String bases = Arenas.bases(x);
+            String counts = Arenas.counts(x);
+            int seed = x.about(map, 2);
+            int held = x.size(map);
+            Check.due("how many", x.clear(map), held);
+            Check.due("contents", Arenas.contents(x, map), "capacity 8 seed " + seed);
+            Check.due("size", x.size(map), 0);
+            for (int place = 0; place < 8; place++) {
+                Check.due("bits", x.bits(map, place), 0);
+            }
+            Check.due("bases", Arenas.bases(x), bases);
+            Check.due("counts", Arenas.counts(x), counts);
+            Check.due("others", Arenas.contents(x, (map + 1) % 3) + Arenas.contents(x, (map + 2) % 3), others);
+            Check.due("a second time", x.clear(map), 0);
+            Check.due("home", x.home(map, 77), KeyFinder.home(77, seed, 8));
+            Arenas.growTo(x, map, 16);
+            Check.due("seed goes on", x.about(map, 2), KeyFinder.later(seed, 1));
+        }
+    }
+
+    private static void clearFull(int capacity) {
+        Arena x = Arenas.empty(0, capacity);
+        Keys keys = new Keys(KeyFinder.seed(0, capacity), capacity);
+        for (int home = 0; home < capacity; home++) {
+            Arenas.putAll(x, 0, keys.at(home));
+        }
+        Check.due("how many of a full map", x.clear(0), capacity);
+        Check.due("next", x.next(0, 0), HopArena.NONE);
+        for (int place : new int[] {-1, 8}) {
+            Check.dueOutcome("place " + place, () -> x.key(0, place), NO_ARGUMENT);
+        }
+        Check.dueOutcome("place 7", () -> x.key(0, 7), NO_ELEMENT);
+        Check.due("an empty map", x.clear(0), 0);
+    }
+
+    private static void clearKeepsFirstEightSlots(int capacity) {
+        Arena x = new Arena();
+        Arenas.growTo(x, 2, capacity);
+        int base = x.about(2, 1);
+        x.clear(2);
+        Arenas.growTo(x, 0, 16);
+        Check.due("a new part of 16 lies behind 8 slots", x.about(0, 1), base + 8);
+        Check.due("nothing in it but its keys", x.size(0), 9);
+        Arenas.growTo(x, 2, 16);
+        Check.due("the next one behind that", x.about(2, 1), base + 24);
+    }
+
+    private static void clearLeavesNothing() {
+        Arena x = new Arena();
         Arenas.growTo(x, 0, 32);
         Arenas.growTo(x, 1, 16);
-        String other = Arenas.contents(x, 1);
-        int held = x.size(0);
-        Check.due("7: bases", Arenas.bases(x), "40 72 16");
-        Check.due("7: how many", x.clear(0), held);
-        Check.due("7: cleared", Arenas.contents(x, 0), "capacity 8 seed " + KeyFinder.later(1, 2));
-        Check.due("7: size", x.size(0), 0);
-        Check.due("7: other map", Arenas.contents(x, 1), other);
-        Check.due("7: bases stay", Arenas.bases(x), "40 72 16");
-        Check.due("7: again", x.clear(0), 0);
+        Check.due("bases", Arenas.bases(x), "40 72 16");
+        x.clear(0);
         x.clear(1);
+        Check.due("bases stay", Arenas.bases(x), "40 72 16");
         Arenas.growTo(x, 2, 16);
-        Check.due("7: behind the 8 slots that were kept", Arenas.bases(x), "40 72 80");
-        Check.due("7: nothing left over", x.size(2), 9);
+        Check.due("over slots that were taken", Arenas.bases(x), "40 72 80");
+        Check.due("nothing left over", x.size(2), 9);
         Arenas.growTo(x, 0, 16);
-        Check.due("7: seed goes on", x.about(0, 2), KeyFinder.later(1, 3));
+        Check.due("not its own keys either", x.size(0), 9);
     }
 
     private static void about() {
-        HopArena x = new HopArena();
+        Check.sentence("Of a map: 0 capacity, 1 base, 2 seed. IllegalArgumentException: what is none of these.");
+        Arena x = new Arena();
         Arenas.growTo(x, 2, 16);
-        Check.due("8: capacity", x.about(2, 0), 16);
-        Check.due("8: base", x.about(2, 1), 24);
-        Check.due("8: seed", x.about(2, 2), 3 * 1664525 + 1013904223);
-        for (int what : new int[] {-1, 3, Integer.MIN_VALUE, Integer.MAX_VALUE}) {
-            Check.dueOutcome("8: no such thing", () -> x.about(2, what), NO_ARGUMENT);
-            Check.dueOutcome("8: no such map first", () -> x.about(3, what), NO_MAP);
+        Check.due("capacity", x.about(2, 0), 16);
+        Check.due("base", x.about(2, 1), 24);
+        Check.due("seed", x.about(2, 2), 1018897798);
+        for (int map = 0; map < 3; map++) {
+            int m = map;
+            for (int what : new int[] {-1, 3, 4, Integer.MIN_VALUE, Integer.MAX_VALUE}) {
+                Check.dueOutcome("what " + what, () -> x.about(m, what), NO_ARGUMENT);
+            }
         }
     }
 
     private static void home() {
-        HopArena x = new HopArena();
-        Check.due("9: told by the document's tests", x.home(0, 5), 3);
-        int[] keys = {0, 1, -1, 5, 77, 123456789, Integer.MAX_VALUE, Integer.MIN_VALUE};
-        for (int key : keys) {
-            for (int map = 0; map < 3; map++) {
-                Check.due("9: capacity 8", x.home(map, key), KeyFinder.home(key, map + 1, 8));
-            }
+        Check.sentence("The home of a key, also of one that is not there.");
+        Arena x = new Arena();
+        Check.due("not there", x.home(0, 5), 3);
+        x.put(0, 5, 1);
+        Check.due("there", x.home(0, 5), 3);
+        x.remove(0, 5);
+        Check.due("not there any more", x.home(0, 5), 3);
+        Check.due("nothing was put", x.size(0), 0);
+        Arenas.putAll(x, 0, KeyFinder.inseparable(8));
+        for (int key : KeyFinder.inseparable(9)) {
+            Check.due("one home, wherever they are", x.home(0, key), KeyFinder.home(1000, 1, 8));
         }
-        Arenas.growTo(x, 1, 32);
-        for (int key : keys) {
-            Check.due("9: capacity 32", x.home(1, key), KeyFinder.home(key, KeyFinder.later(2, 2), 32));
-        }
-        Check.due("9: nothing was put", x.has(1, 123456789), false);
+        x.clear(0);
+        Arenas.growTo(x, 0, 64);
+        Check.due("in the larger map", x.home(0, 5), KeyFinder.home(5, KeyFinder.seed(0, 64), 64));
+        x.clear(0);
+        Check.due("in 8 places with a later seed", x.home(0, 5), KeyFinder.home(5, KeyFinder.seed(0, 64), 8));
     }
 
     private static void distance() {
-        HopArena x = new HopArena();
-        int[] same = new KeyFinder().at(1, 8, 5).find(9);
+        Check.sentence("The distance of a key. NoSuchElementException: it is not there.");
+        Arena x = new Arena();
+        int[] same = new Keys(1, 8).at(5, 9);
+        Check.dueOutcome("in an empty map", () -> x.distance(0, same[0]), NO_ELEMENT);
         for (int i = 0; i < 8; i++) {
+            int next = same[i + 1];
             Arenas.putAll(x, 0, same[i]);
-            Check.due("10: around the end", x.distance(0, same[i]), i);
+            Check.due("around the end", x.distance(0, same[i]), i);
+            Check.dueOutcome("not there yet", () -> x.distance(0, next), NO_ELEMENT);
         }
-        Check.due("10: place", x.key(0, 2), same[5]);
-        Check.dueOutcome("10: not there", () -> x.distance(0, same[8]), NO_ELEMENT);
-        Check.dueOutcome("10: not in that map", () -> x.distance(1, same[0]), NO_ELEMENT);
+        Check.dueOutcome("not in that map", () -> x.distance(1, same[0]), NO_ELEMENT);
+        x.remove(0, same[0]);
+        Check.dueOutcome("not there any more", () -> x.distance(0, same[0]), NO_ELEMENT);
+        Check.due("still 7", x.distance(0, same[7]), 7);
     }
 
-    private static void bits() {
-        HopArena x = Arenas.withSixteen();
-        int[] at14 = new KeyFinder().at(SEED_AT_16, 16, 14).find(3);
-        int at15 = new KeyFinder().at(SEED_AT_16, 16, 15).findOne();
-        Arenas.putAll(x, 0, at14[0], at15, at14[1], at14[2]);
-        Check.due("11: around the end", x.bits(0, 14), 1 + 4 + 8);
-        Check.due("11: only keys of that home", x.bits(0, 15), 1);
-        Check.due("11: a taken place is nobody's home", x.bits(0, 0), 0);
-        x.remove(0, at14[1]);
-        Check.due("11: removed", x.bits(0, 14), 1 + 8);
-        for (int place : new int[] {-1, 16, Integer.MIN_VALUE, Integer.MAX_VALUE}) {
-            Check.dueOutcome("11: no such place", () -> x.bits(0, place), NO_ARGUMENT);
-            Check.dueOutcome("11: no such map first", () -> x.bits(3, place), NO_MAP);
+    private static void bitsOfEmptyAndFullMaps() {
+        Check.sentence("The bits of a place. IllegalArgumentException: there is no such place.");
+        Arena x = new Arena();
+        for (int place = 0; place < 8; place++) {
+            Check.due("empty map", x.bits(2, place), 0);
         }
-        Check.dueOutcome("11: capacities differ", () -> x.bits(1, 8), NO_ARGUMENT);
-        HopArena full = new HopArena();
-        Arenas.putAll(full, 2, new KeyFinder().at(3, 8, 4).find(8));
-        Check.due("11: all of a full map", full.bits(2, 4), 255);
-        Check.due("11: none of a full map", full.bits(2, 5), 0);
+        Keys keys = new Keys(3, 8);
+        int[] same = keys.at(4, 8);
+        int row = 0;
+        for (int i = 0; i < 8; i++) {
+            Arenas.putAll(x, 2, same[i]);
+            row += 1 << i;
+            Check.due("one more bit", x.bits(2, 4), row);
+        }
+        for (int place = 0; place < 8; place++) {
+            Check.due("full map, place " + place, x.bits(2, place), place == 4 ? 255 : 0);
+        }
+        Arenas.growTo(x, 1, 16);
+        Check.dueOutcome("last place of 16", () -> x.bits(1, 15) >= 0, true);
+        Check.dueOutcome("behind it", () -> x.bits(1, 16), NO_ARGUMENT);
+        Check.dueOutcome("behind the last place of 8", () -> x.bits(2, 8), NO_ARGUMENT);
+        Check.dueOutcome("before the first place", () -> x.bits(2, -1), NO_ARGUMENT);
     }
 
     private static void next() {
-        HopArena x = new HopArena();
-        Arenas.putAll(x, 1, new KeyFinder().at(2, 8, 2).findOne(), new KeyFinder().at(2, 8, 5).findOne());
+        Check.sentence("The least place from one on that is not free; NONE when there is none.");
+        Arena x = new Arena();
+        Keys keys = new Keys(2, 8);
+        Arenas.putAll(x, 1, keys.at(2), keys.at(5));
         int[] due = {2, 2, 2, 5, 5, 5, HopArena.NONE, HopArena.NONE};
         for (int place = 0; place < 8; place++) {
-            Check.due("12: from " + place, x.next(1, place), due[place]);
-            Check.due("12: other map", x.next(0, place), HopArena.NONE);
+            Check.due("from " + place, x.next(1, place), due[place]);
+            Check.due("other map", x.next(0, place), HopArena.NONE);
         }
-        Arenas.putAll(x, 1, new KeyFinder().at(2, 8, 7).findOne());
-        Check.due("12: last place", x.next(1, 7), 7);
+        Arenas.putAll(x, 1, keys.at(0), keys.at(7));
+        Check.due("first place", x.next(1, 0), 0);
+        Check.due("behind it", x.next(1, 1), 2);
+        Check.due("before the last place", x.next(1, 6), 7);
+        Check.due("last place", x.next(1, 7), 7);
         for (int place : new int[] {-1, 8, Integer.MIN_VALUE, Integer.MAX_VALUE}) {
-            Check.dueOutcome("12: no such place", () -> x.next(1, place), NO_ARGUMENT);
-            Check.dueOutcome("12: no such map first", () -> x.next(3, place), NO_MAP);
+            Check.dueOutcome("no such place", () -> x.next(1, place), NO_ARGUMENT);
+        }
+    }
+
+    private static void nextInEmptyAndFullMaps() {
+        for (int capacity : CAPACITIES) {
+            Arena x = Arenas.empty(1, capacity);
+            Keys keys = new Keys(KeyFinder.seed(1, capacity), capacity);
+            for (int place = 0; place < capacity; place++) {
+                Check.due("empty map", x.next(1, place), HopArena.NONE);
+            }
+            for (int home = 0; home < capacity; home++) {
+                Arenas.putAll(x, 1, keys.at(home));
+            }
+            for (int place = 0; place < capacity; place++) {
+                Check.due("full map", x.next(1, place), place);
+            }
+        }
+    }
+
+    private static void nextDoesNotGoAround() {
+        for (int capacity : CAPACITIES) {
+            Arena x = Arenas.empty(0, capacity);
+            Keys keys = new Keys(KeyFinder.seed(0, capacity), capacity);
+            Arenas.putAll(x, 0, keys.at(0));
+            Check.due("at the key", x.next(0, 0), 0);
+            for (int place = 1; place < capacity; place++) {
+                Check.due("behind the key", x.next(0, place), HopArena.NONE);
+            }
+            // The slot behind the part may be another map's, and taken.
+            Arenas.putAll(x, 1, new Keys(2, 8).at(0));
+            Arenas.putAll(x, 2, new Keys(3, 8).at(0));
+            Check.due("at the last place", x.next(0, capacity - 1), HopArena.NONE);
         }
     }
 
     private static void key() {
-        HopArena x = new HopArena();
-        int at0 = new KeyFinder().at(3, 8, 0).findOne();
-        int at7 = new KeyFinder().at(3, 8, 7).findOne();
+        Check.sentence("The key at a place. IllegalArgumentException: there is no such place; "
+                + "NoSuchElementException: it is free.");
+        Arena x = new Arena();
+        Keys keys = new Keys(3, 8);
+        int at0 = keys.at(0);
+        int at7 = keys.at(7);
         Arenas.putAll(x, 2, at0, at7);
-        Check.due("13: first place", x.key(2, 0), at0);
-        Check.due("13: last place", x.key(2, 7), at7);
-        Check.dueOutcome("13: free", () -> x.key(2, 3), NO_ELEMENT);
-        Check.dueOutcome("13: free in the other map", () -> x.key(1, 0), NO_ELEMENT);
+        Check.due("first place", x.key(2, 0), at0);
+        Check.due("last place", x.key(2, 7), at7);
+        for (int place = 1; place < 7; place++) {
+            int p = place;
+            Check.dueOutcome("free", () -> x.key(2, p), NO_ELEMENT);
+        }
+        Check.dueOutcome("free in the other map", () -> x.key(1, 0), NO_ELEMENT);
         x.remove(2, at0);
-        Check.dueOutcome("13: free again", () -> x.key(2, 0), NO_ELEMENT);
+        Check.dueOutcome("free again", () -> x.key(2, 0), NO_ELEMENT);
         for (int place : new int[] {-1, 8, Integer.MIN_VALUE, Integer.MAX_VALUE}) {
-            Check.dueOutcome("13: no such place", () -> x.key(2, place), NO_ARGUMENT);
-            Check.dueOutcome("13: no such map first", () -> x.key(-1, place), NO_MAP);
+            Check.dueOutcome("no such place", () -> x.key(2, place), NO_ARGUMENT);
+            Check.dueOutcome("no such place of an empty map", () -> x.key(1, place), NO_ARGUMENT);
+        }
+    }
+
+    private static void keyAtEachPlace() {
+        for (int capacity : CAPACITIES) {
+            Arena x = Arenas.empty(1, capacity);
+            Keys keys = new Keys(KeyFinder.seed(1, capacity), capacity);
+            int[] due = new int[capacity];
+            for (int home = capacity - 1; home >= 0; home--) {
+                due[home] = keys.at(home);
+                Arenas.putAll(x, 1, due[home]);
+            }
+            Check.due("full map", Arenas.contents(x, 1), Arenas.contentsOf(KeyFinder.seed(1, capacity), due));
+            Check.dueOutcome("behind it", () -> x.key(1, capacity), NO_ARGUMENT);
         }
     }
 
     private static void count() {
-        HopArena x = new HopArena();
+        Check.sentence("A count. IllegalArgumentException: what is not 0 .. 2.");
+        Arena x = new Arena();
+        Check.due("at first", Arenas.counts(x), "0 0 0");
         Arenas.growTo(x, 0, 32);
-        Check.due("14: new parts", x.count(1), 2);
-        x.clear(0);
-        Check.due("14: clearing keeps counts", x.count(1), 2);
-        for (int what : new int[] {-1, 3, Integer.MIN_VALUE, Integer.MAX_VALUE}) {
-            Check.dueOutcome("14: no such count", () -> x.count(what), NO_ARGUMENT);
+        Check.due("new parts", Arenas.counts(x), "0 2 0");
+        for (int what : new int[] {-1, 3, 4, Integer.MIN_VALUE, Integer.MAX_VALUE}) {
+            Check.dueOutcome("what " + what, () -> x.count(what), NO_ARGUMENT);
         }
-    }
-
-    private static void noSuchMap() {
-        HopArena x = new HopArena();
-        for (int map : NO_MAPS) {
-            Check.dueOutcome("put", () -> x.put(map, 1, 1), NO_MAP);
-            Check.dueOutcome("get", () -> x.get(map, 1), NO_MAP);
-            Check.dueOutcome("remove", () -> x.remove(map, 1), NO_MAP);
-            Check.dueOutcome("has", () -> x.has(map, 1), NO_MAP);
-            Check.dueOutcome("size", () -> x.size(map), NO_MAP);
-            Check.dueOutcome("clear", () -> x.clear(map), NO_MAP);
-            Check.dueOutcome("about", () -> x.about(map, 0), NO_MAP);
-            Check.dueOutcome("home", () -> x.home(map, 1), NO_MAP);
-            Check.dueOutcome("distance", () -> x.distance(map, 1), NO_MAP);
-            Check.dueOutcome("bits", () -> x.bits(map, 0), NO_MAP);
-            Check.dueOutcome("next", () -> x.next(map, 0), NO_MAP);
-            Check.dueOutcome("key", () -> x.key(map, 0), NO_MAP);
-        }
-    }
-
-    private static void callsThatThrowChangeNothing() {
-        HopArena x = new HopArena();
-        Arenas.growTo(x, 1, 16);
-        Arenas.putAll(x, 0, 3, 4, 5);
-        String before = Arenas.all(x);
-        Check.dueOutcome("put", () -> x.put(3, 3, 9), NO_MAP);
-        Check.dueOutcome("get", () -> x.get(0, 6), NO_ELEMENT);
-        Check.dueOutcome("remove", () -> x.remove(0, 6), NO_ELEMENT);
-        Check.dueOutcome("remove", () -> x.remove(-1, 3), NO_MAP);
-        Check.dueOutcome("clear", () -> x.clear(3), NO_MAP);
-        Check.dueOutcome("about", () -> x.about(0, 3), NO_ARGUMENT);
-        Check.dueOutcome("distance", () -> x.distance(2, 3), NO_ELEMENT);
-        Check.dueOutcome("bits", () -> x.bits(0, 8), NO_ARGUMENT);
-        Check.dueOutcome("next", () -> x.next(0, 8), NO_ARGUMENT);
-        Check.dueOutcome("key", () -> x.key(0, 8), NO_ARGUMENT);
-        Check.dueOutcome("count", () -> x.count(3), NO_ARGUMENT);
-        Check.due("all as before", Arenas.all(x), before);
     }
 }
