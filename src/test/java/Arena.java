@@ -16,6 +16,7 @@ final class Arena {
     private final List<Change> changes = new ArrayList<>();
     private HopArena object = new HopArena();
     private int calls = 0;
+    private int objects = 1;
 
     private HopArena ready() {
         if (calls == PROMISED_CALLS) {
@@ -25,11 +26,18 @@ final class Arena {
         return object;
     }
 
-    private void startAnew() {
+    /** How many objects there were. A new one does not show what a call changed that should have changed nothing. */
+    int objects() {
+        return objects;
+    }
+
+    /** Goes on with a new object now, so that as many calls as can be are left. */
+    void startAnew() {
         if (changes.size() >= PROMISED_CALLS) {
             throw new IllegalStateException("more changes than calls are promised for");
         }
         object = new HopArena();
+        objects++;
         calls = changes.size();
         for (Change change : changes) {
             Check.outcome(() -> {

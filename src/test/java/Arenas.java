@@ -60,9 +60,9 @@ final class Arenas {
 
     /** A map's capacity, seed, and the keys with their values at their places. */
     static String contents(Arena x, int map) {
-        StringBuilder told = new StringBuilder();
-        told.append("capacity ").append(x.about(map, 0)).append(" seed ").append(x.about(map, 2));
-        for (int place = 0; place < x.about(map, 0); place++) {
+        int capacity = x.about(map, 0);
+        StringBuilder told = new StringBuilder("capacity " + capacity + " seed " + x.about(map, 2));
+        for (int place = 0; place < capacity; place++) {
             int p = place;
             String key = Check.outcome(() -> x.key(map, p));
             if (!key.equals("NoSuchElementException")) {

@@ -1,4 +1,4 @@
-/** What "Terms" says of calls that throw: each method with each wrong argument, and what the arena shows after it. */
+/** Calls that change nothing: each method with each wrong argument, and what the arena shows after it. */
 public final class ThrowingTest {
     private static final int[] NO_MAPS = {-1, 3, 4, Integer.MIN_VALUE, Integer.MAX_VALUE};
     private static final int[] NONE_OF_THREE = {-1, 3, 4, Integer.MIN_VALUE, Integer.MAX_VALUE};
@@ -17,6 +17,7 @@ public final class ThrowingTest {
         noSuchWhat();
         noSuchPlace();
         freePlace();
+        callsThatOnlyTell();
         refused();
         Check.end();
     }
@@ -34,9 +35,12 @@ public final class ThrowingTest {
         return crowded;
     }
 
-    private static void dueThrows(String what, Check.Call call, String due) {
+    private static void dueUnchanged(String what, Check.Call call, String due) {
+        x.startAnew();
+        int objects = x.objects();
         Check.dueOutcome(what, call, due);
         Check.due("after " + what, Arenas.all(x), before);
+        Check.due("all this was seen of one object", x.objects(), objects);
     }
 
     private static void noSuchMap() {
@@ -44,19 +48,19 @@ public final class ThrowingTest {
         for (int map : NO_MAPS) {
             // A key that is there in all maps, and one that is in none.
             for (int key : new int[] {3, 5}) {
-                dueThrows("put " + map, () -> x.put(map, key, 1), NO_MAP);
-                dueThrows("get " + map, () -> x.get(map, key), NO_MAP);
-                dueThrows("remove " + map, () -> x.remove(map, key), NO_MAP);
-                dueThrows("has " + map, () -> x.has(map, key), NO_MAP);
-                dueThrows("home " + map, () -> x.home(map, key), NO_MAP);
-                dueThrows("distance " + map, () -> x.distance(map, key), NO_MAP);
+                dueUnchanged("put " + map, () -> x.put(map, key, 1), NO_MAP);
+                dueUnchanged("get " + map, () -> x.get(map, key), NO_MAP);
+                dueUnchanged("remove " + map, () -> x.remove(map, key), NO_MAP);
+                dueUnchanged("has " + map, () -> x.has(map, key), NO_MAP);
+                dueUnchanged("home " + map, () -> x.home(map, key), NO_MAP);
+                dueUnchanged("distance " + map, () -> x.distance(map, key), NO_MAP);
             }
-            dueThrows("size " + map, () -> x.size(map), NO_MAP);
-            dueThrows("clear " + map, () -> x.clear(map), NO_MAP);
-            dueThrows("about " + map, () -> x.about(map, 0), NO_MAP);
-            dueThrows("bits " + map, () -> x.bits(map, 0), NO_MAP);
-            dueThrows("next " + map, () -> x.next(map, 0), NO_MAP);
-            dueThrows("key " + map, () -> x.key(map, 0), NO_MAP);
+            dueUnchanged("size " + map, () -> x.size(map), NO_MAP);
+            dueUnchanged("clear " + map, () -> x.clear(map), NO_MAP);
+            dueUnchanged("about " + map, () -> x.about(map, 0), NO_MAP);
+            dueUnchanged("bits " + map, () -> x.bits(map, 0), NO_MAP);
+            dueUnchanged("next " + map, () -> x.next(map, 0), NO_MAP);
+            dueUnchanged("key " + map, () -> x.key(map, 0), NO_MAP);
         }
     }
 
@@ -84,10 +88,10 @@ public final class ThrowingTest {
         Check.sentence("Methods throw what their comments name, the one named first when several would do");
         for (int map : NO_MAPS) {
             for (int other : new int[] {-1, 128, Integer.MIN_VALUE, Integer.MAX_VALUE}) {
-                dueThrows("about", () -> x.about(map, other), NO_MAP);
-                dueThrows("bits", () -> x.bits(map, other), NO_MAP);
-                dueThrows("next", () -> x.next(map, other), NO_MAP);
-                dueThrows("key", () -> x.key(map, other), NO_MAP);
+                dueUnchanged("about", () -> x.about(map, other), NO_MAP);
+                dueUnchanged("bits", () -> x.bits(map, other), NO_MAP);
+                dueUnchanged("next", () -> x.next(map, other), NO_MAP);
+                dueUnchanged("key", () -> x.key(map, other), NO_MAP);
             }
         }
         Arena empty = new Arena();
@@ -108,19 +112,19 @@ public final class ThrowingTest {
         for (int map = 0; map < 3; map++) {
             int m = map;
             for (int key : new int[] {5, -1, Integer.MIN_VALUE, Integer.MAX_VALUE}) {
-                dueThrows("get", () -> x.get(m, key), NO_ELEMENT);
-                dueThrows("remove", () -> x.remove(m, key), NO_ELEMENT);
-                dueThrows("distance", () -> x.distance(m, key), NO_ELEMENT);
+                dueUnchanged("get", () -> x.get(m, key), NO_ELEMENT);
+                dueUnchanged("remove", () -> x.remove(m, key), NO_ELEMENT);
+                dueUnchanged("distance", () -> x.distance(m, key), NO_ELEMENT);
             }
         }
     }
 
     private static void noSuchWhat() {
         for (int what : NONE_OF_THREE) {
-            dueThrows("count", () -> x.count(what), NO_ARGUMENT);
+            dueUnchanged("count", () -> x.count(what), NO_ARGUMENT);
             for (int map = 0; map < 3; map++) {
                 int m = map;
-                dueThrows("about", () -> x.about(m, what), NO_ARGUMENT);
+                dueUnchanged("about", () -> x.about(m, what), NO_ARGUMENT);
             }
         }
     }
@@ -130,9 +134,9 @@ public final class ThrowingTest {
             int m = map;
             int capacity = x.about(map, 0);
             for (int place : new int[] {-1, capacity, 256, Integer.MIN_VALUE, Integer.MAX_VALUE}) {
-                dueThrows("bits", () -> x.bits(m, place), NO_ARGUMENT);
-                dueThrows("next", () -> x.next(m, place), NO_ARGUMENT);
-                dueThrows("key", () -> x.key(m, place), NO_ARGUMENT);
+                dueUnchanged("bits", () -> x.bits(m, place), NO_ARGUMENT);
+                dueUnchanged("next", () -> x.next(m, place), NO_ARGUMENT);
+                dueUnchanged("key", () -> x.key(m, place), NO_ARGUMENT);
             }
         }
     }
@@ -144,12 +148,29 @@ public final class ThrowingTest {
                 int m = map;
                 int p = place;
                 if (x.next(map, place) != place) {
-                    dueThrows("key", () -> x.key(m, p), NO_ELEMENT);
+                    dueUnchanged("key", () -> x.key(m, p), NO_ELEMENT);
                     free++;
                 }
             }
             Check.due("free places", free, x.about(map, 0) - x.size(map));
         }
+    }
+
+    private static void callsThatOnlyTell() {
+        Check.sentence("Nothing is promised beyond the answers and state changes described above");
+        int held = x.size(1);
+        int place = x.next(1, 0);
+        dueUnchanged("get", () -> x.get(1, 3), Arenas.valueOf(3) + "");
+        dueUnchanged("has", () -> x.has(1, 3), "true");
+        dueUnchanged("has not", () -> x.has(1, 5), "false");
+        dueUnchanged("size", () -> x.size(1), held + "");
+        dueUnchanged("about", () -> x.about(1, 0), "64");
+        dueUnchanged("home", () -> x.home(1, 5), KeyFinder.home(5, KeyFinder.seed(1, 64), 64) + "");
+        dueUnchanged("distance", () -> x.distance(1, 3) < 8, "true");
+        dueUnchanged("bits", () -> x.bits(1, place) < 256, "true");
+        dueUnchanged("next", () -> x.next(1, place), place + "");
+        dueUnchanged("key", () -> x.has(1, x.key(1, place)), "true");
+        dueUnchanged("count", () -> x.count(1), "8");
     }
 
     private static void refused() {
