@@ -90,7 +90,7 @@ public final class GrowingTest {
             Arenas.putAll(x, 0, key);
             due[(9 + place) % 16] = key;
         }
-        // At its home before growing, it would come first; at the same home after it, all others are before it.
+        // Were it inserted before the others, it would come to place 10.
         int added = new KeyFinder().at(1, 8, 0).at(SEED_AT_16, 16, 10).findOne();
         due[1] = added;
         Arenas.putAll(x, 0, added);
@@ -238,7 +238,7 @@ public final class GrowingTest {
 
     private static void keysKeepTheirPlaces() {
         Check.sentence("(keys keep their places)");
-        // The part of map 0 moves down by 72 slots, so that it begins at 0; all its 64 places are taken.
+        // All 64 places of map 0 are taken when its part moves down from slot 72 to slot 8.
         Arena x = doubled(0, 0, 0, 1);
         Arenas.removeAll(x, 0);
         Keys keys = new Keys(KeyFinder.seed(0, 64), 64);
