@@ -9,6 +9,9 @@ public final class HopArena {
     private static final int LEAST_CAPACITY = 8;
     private static final int MOST_CAPACITY = 128;
 
+    /** From the least capacity to the greatest one. */
+    private static final int MOST_DOUBLINGS = 4;
+
     /** A key lies fewer than this many places behind its home. */
     private static final int REACH = 8;
 
@@ -293,8 +296,9 @@ public final class HopArena {
         Part fresh = spare;
         int sum = sumOfCapacities();
         int seed = old.seed;
-        for (int capacity = 2 * old.capacity; capacity <= MOST_CAPACITY; capacity *= 2) {
-            if (sum + capacity > SLOTS) {
+        for (int doublings = 1; doublings <= MOST_DOUBLINGS; doublings++) {
+            int capacity = old.capacity << doublings;
+            if (capacity > MOST_CAPACITY || sum + capacity > SLOTS) {
                 return false;
             }
             seed = seed * 1664525 + 1013904223;

@@ -12,17 +12,17 @@ import java.util.TreeSet;
 public final class FaceTest {
     private static final String[] FACE = {
         "boolean put(int,int,int) throws IndexOutOfBoundsException,ArithmeticException",
-        "int get(int,int) throws IndexOutOfBoundsException,NoSuchElementException",
-        "int remove(int,int) throws IndexOutOfBoundsException,NoSuchElementException",
+        "int get(int,int) throws IndexOutOfBoundsException,java.util.NoSuchElementException",
+        "int remove(int,int) throws IndexOutOfBoundsException,java.util.NoSuchElementException",
         "boolean has(int,int) throws IndexOutOfBoundsException",
         "int size(int) throws IndexOutOfBoundsException",
         "int clear(int) throws IndexOutOfBoundsException",
         "int about(int,int) throws IndexOutOfBoundsException,IllegalArgumentException",
         "int home(int,int) throws IndexOutOfBoundsException",
-        "int distance(int,int) throws IndexOutOfBoundsException,NoSuchElementException",
+        "int distance(int,int) throws IndexOutOfBoundsException,java.util.NoSuchElementException",
         "int bits(int,int) throws IndexOutOfBoundsException,IllegalArgumentException",
         "int next(int,int) throws IndexOutOfBoundsException,IllegalArgumentException",
-        "int key(int,int) throws IndexOutOfBoundsException,IllegalArgumentException,NoSuchElementException",
+        "int key(int,int) throws IndexOutOfBoundsException,IllegalArgumentException,java.util.NoSuchElementException",
         "int count(int) throws IllegalArgumentException",
     };
 
@@ -85,7 +85,7 @@ public final class FaceTest {
     private static String names(Class<?>[] classes) {
         List<String> names = new ArrayList<>();
         for (Class<?> one : classes) {
-            names.add(one.getSimpleName());
+            names.add(one.getName().replace("java.lang.", ""));
         }
         return String.join(",", names);
     }

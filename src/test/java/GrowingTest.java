@@ -10,6 +10,7 @@ public final class GrowingTest {
         newKeyComesLast();
         failedInsertionMovesBeforeGrowing();
         growsAgainInTheSameOrder();
+        growsAgainInTheOrderAfterTheFailedInsertion();
         oldKeyFailsInTheNewPart();
         newPartLiesBehindAllParts();
         newPartLiesBehindItsOldPart();
@@ -132,6 +133,27 @@ public final class GrowingTest {
         Check.due("places", Arenas.contents(x, 0), Arenas.contentsOf(SEED_AT_32, due));
         Check.due("bases", Arenas.bases(x), "24 8 16");
         Check.due("counts", Arenas.counts(x), "0 2 0");
+    }
+
+    private static void growsAgainInTheOrderAfterTheFailedInsertion() {
+        Arena x = Arenas.withSixteen();
+        int seedAt64 = KeyFinder.seed(0, 64);
+        int[] at3 = new KeyFinder().at(SEED_AT_16, 16, 3).at(SEED_AT_32, 32, 27).at(seedAt64, 64, 27).find(8);
+        int at11 = new KeyFinder().at(SEED_AT_16, 16, 11).at(SEED_AT_32, 32, 11).at(seedAt64, 64, 8).findOne();
+        int at12 = new KeyFinder().at(SEED_AT_16, 16, 12).at(SEED_AT_32, 32, 14).at(seedAt64, 64, 8).findOne();
+        int added = new KeyFinder().at(SEED_AT_16, 16, 3).at(SEED_AT_32, 32, 27).at(seedAt64, 64, 8).findOne();
+        Arenas.putAll(x, 0, at3);
+        Arenas.putAll(x, 0, at11, at12);
+        // It fails in 16 places, where at11 comes behind at12, and in 32 places, where at11 lies before at12.
+        Arenas.putAll(x, 0, added);
+        int[] due = new int[64];
+        System.arraycopy(at3, 0, due, 27, 8);
+        due[8] = at12;
+        due[9] = at11;
+        due[10] = added;
+        Check.due("places after moves", Arenas.contents(x, 0), Arenas.contentsOf(seedAt64, due));
+        Check.due("counts after moves", Arenas.counts(x), "1 3 0");
+        Check.due("bases after moves", Arenas.bases(x), "40 8 16");
     }
 
     private static void oldKeyFailsInTheNewPart() {

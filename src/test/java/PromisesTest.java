@@ -412,7 +412,8 @@ public final class PromisesTest {
     }
 
     private static void next() {
-        Check.sentence("The least place from one on that is not free; NONE when there is none.");
+        Check.sentence("The least place from one on that is not free; NONE when there is none. "
+                + "IllegalArgumentException: there is no such place.");
         Arena x = new Arena();
         Keys keys = new Keys(2, 8);
         Arenas.putAll(x, 1, keys.at(2), keys.at(5));

@@ -12,6 +12,7 @@ public final class RefusingTest {
         itMayLieSomewhereElse();
         seedGoesOnFromWhatItWas();
         movesOfTheFailedInsertionStay();
+        movesInTheNewPartDoNotStay();
         oneKeyLessFitsAgain();
         knownKeyNeedsNoRoom();
         Check.end();
@@ -269,6 +270,32 @@ public final class RefusingTest {
         Check.due("put again", put(x, 2, added), REFUSED);
         Check.due("places then", Arenas.contents(x, 2), Arenas.contentsOf(seed, places));
         Check.due("moves then", x.count(0), counts[0] + 1);
+    }
+
+    private static void movesInTheNewPartDoNotStay() {
+        Check.sentence("the map has capacity, seed, places and keys as when it began to grow");
+        Arena x = Arenas.withCapacities(64, 64, 32);
+        Arenas.removeAll(x, 2);
+        int seed = KeyFinder.seed(2, 32);
+        int seedAt64 = KeyFinder.seed(2, 64);
+        // In 32 places and in 64, what is at place 8 moves to place 10 for the ninth key, and nothing to place 8.
+        int[] nine = new KeyFinder().at(seed, 32, 0).at(seedAt64, 64, 0).find(9);
+        int at8 = new KeyFinder().at(seed, 32, 8).at(seedAt64, 64, 8).findOne();
+        int at9 = new KeyFinder().at(seed, 32, 9).at(seedAt64, 64, 9).findOne();
+        int[] places = java.util.Arrays.copyOf(nine, 32);
+        places[8] = 0;
+        Arenas.putAll(x, 2, java.util.Arrays.copyOf(nine, 8));
+        Arenas.putAll(x, 2, at8, at9);
+        String others = Arenas.contents(x, 0) + Arenas.contents(x, 1);
+        int[] counts = {x.count(0), x.count(1), x.count(2)};
+        Check.due("put", put(x, 2, nine[8]), REFUSED);
+        places[9] = at9;
+        places[10] = at8;
+        Check.due("places", Arenas.contents(x, 2), Arenas.contentsOf(seed, places));
+        Check.due("others", Arenas.contents(x, 0) + Arenas.contents(x, 1), others);
+        Check.due("moves in both parts", x.count(0) - counts[0], 2);
+        Check.due("new parts", x.count(1) - counts[1], 1);
+        Check.due("not there", x.has(2, nine[8]), false);
     }
 
     private static void oneKeyLessFitsAgain() {
